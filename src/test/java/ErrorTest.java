@@ -148,6 +148,7 @@ final class ErrorTest {
         c.counts(3, 400);
         c.runs("fun g() {}", 8);
         c.runs("fun f() {" + body + "a;}", 8);
+        c.runs("fun f() {" + Bench.times(198, "a;") + "-a;}", 8);
         c.runs("fun f() {" + body + "{}a;} fun f() {}", 8);
         c.counts(3, 400);
         c.runs("fun f() {} fun g() {}", 0);

@@ -140,6 +140,20 @@ final class FaultTest {
         Bench.error("fun f(a) " + Bench.times(16, "{") + Bench.times(16, "}"), 0);
         Bench.fault("fun f(a) " + Bench.times(17, "{") + Bench.times(17, "}"), 25);
         Bench.error(Bench.times(200, "(1);"), 0);
+        // Each bracket counts for all that stands in it, and for nothing behind it.
+        String deep = Bench.times(15, "(") + "1" + Bench.times(15, ")");
+        String[] around = {"if (#) {}", "while (#) {}", "a = [0, #];", "f2(0, #);", "f2(#, 0);",
+            "push([], #);", "push(#, 0);", "size(#);", "pop(#);", "b = [0][#];", "a = {p: #};",
+            "a = {p: 0, q: #};", "a = -#;", "a = !#;", "(#);", "[0][#] = 1;"};
+        for (String s : around) {
+            int place = s.indexOf('#') + 15;
+            Bench b = new Bench();
+            int answer = b.run(s.replace("#", deep), 9);
+            Bench.due("no FAULT in " + s, answer < 100 ? 1 : 0, 1);
+            Bench.fault(s.replace("#", "(" + deep + ")"), place);
+            answer = b.run(s.replace("#", "1") + "print " + deep + ";", 9);
+            Bench.due("no FAULT behind " + s, answer < 100 ? 1 : 0, 1);
+        }
     }
 
     private static void nothingIsDone() {

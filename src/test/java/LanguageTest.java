@@ -9,6 +9,8 @@ final class LanguageTest {
         locals();
         calls();
         printing();
+        partsOfOthers();
+        longOnes();
         Bench.finish();
     }
 
@@ -87,12 +89,21 @@ final class LanguageTest {
         Bench.result("return {a:1,b:1,c:1,d:1,e:1,f:1,g:1,h:1,a:nil,i:7}.i;", 7);
         Bench.result("a = {a:1,b:1,c:1,d:1,e:1,f:1,g:1,h:1,i:nil}; a.h = 5; a.j = nil; return a.h;", 5);
         Bench.result("a = {a:1}; b = a; b.a = 2; return a.a;", 2);
+        Bench.result("a = {p: 1, q: 2, r: 3}; a.p = nil; return a.q * 10 + a.r;", 23);
+        Bench.result("a = {p: 1, q: 2, r: 3}; a.q = nil; a.s = 4; return a.p * 100 + a.r * 10 + a.s;", 134);
+        Bench.resultText("a = {p: \"x\", q: 2, r: \"abcdefghij\"}; a.q = nil; return a.p + a.r;",
+                "xabcdefghij");
+        Bench.resultText("a = {p: 1, p: \"x\"}; a.q = a; a.q = \"y\"; return a.p + a.q;", "xy");
+        Bench.result("a = {p: 7, q: \"p\"}; a.p = nil; return a.p == nil;", 1);
+        Bench.result("a = {}; return a.p == nil && a.p == b && b == nil;", 1);
     }
 
     private static void rows() {
         Bench.result("a = [1, [2, 3], nil]; return a[1][1] * 10 + size(a);", 33);
         Bench.result("a = [1, 2]; a[0] = 7; return a[0] + a[1];", 9);
         Bench.result("a = [1, 2]; a[1] = nil; return size(a);", 2);
+        Bench.resultText("a = [1, 2]; a[0] = \"x\"; return a[0];", "x");
+        Bench.result("a = [1, 2]; a[1] = a; return a[1];", Bench.ROW);
         Bench.result("a = []; return push(push(a, 1), 2) == a && size(a);", 2);
         Bench.result("a = [4, 5]; return pop(a) * 10 + size(a);", 51);
         Bench.result("a = []; push(a, nil); return size(a);", 1);
@@ -120,6 +131,7 @@ final class LanguageTest {
         b.gives("fun f(n) { let t = n; if (n) { f(n - 1); } return t; } return f(5);", 5);
         b.gives("fun f(n) { if (n) { let t = 1; } return t; } f(1); return f(0);", Bench.NIL);
         b.gives("{ let z = 3; } { return z; }", 3);
+        b.gives("let u = v; let v = u; return u == nil && v == nil;", 1);
         // A name of a FUNCTION, or of a FIELD, is no variable.
         b.gives("fun a(x) { return x.a; } let a = 4; return a({a: a});", 4);
     }
@@ -139,7 +151,47 @@ final class LanguageTest {
         b.runs("return f(8);", 7);
         b.gives("fun f(n) { while (1) { if (n) { return n; } n = 3; } } return f(0);", 3);
         b.gives("return; a = 1;", Bench.NIL);
+        b.gives("fun h() { return; } fun k() { } return h() == nil && k() == nil && h() == k();", 1);
         b.gives("{ { return 1; } } return 2;", 1);
+    }
+
+    /** What is found first must still be there when the rest is found. */
+    private static void partsOfOthers() {
+        Bench.result("return 10 + (1 && 2);", 12);
+        Bench.result("return 10 + (0 || 2);", 12);
+        Bench.result("return 10 + (3 || 2) + (0 && 4);", 13);
+        Bench.result("return 10 + (1 == 1) + (1 != 1);", 11);
+        Bench.result("return 10 + (1 < 2) + (2 <= 1);", 11);
+        Bench.result("return 10 + !0 + -1;", 10);
+        Bench.result("return 10 + pop([4]) + size([1]);", 15);
+        Bench.result("return 10 + [4, 5][1] + {a: 6}.a;", 21);
+        Bench.result("return 10 + size(push([], 1)) + size({a: 1, b: 2}) + size(\"abc\");", 16);
+        Bench.result("fun f(a, b) { let c = 1; return b; } return 10 + f(1, 2) + f(3, 4);", 16);
+        Bench.result("a = [0]; return [1, a[0], size(a), pop(a), nil][2];", 1);
+        Bench.result("return \"abc\"[1] == \"b\";", 1);
+        Bench.result("a = 3; a; 1; f2; a = a + 1; print a; 2 == 3; return a;", 4);
+    }
+
+    private static void longOnes() {
+        StringBuilder lets = new StringBuilder();
+        StringBuilder sum = new StringBuilder("return 0");
+        for (char c = 'a'; c <= 'z'; c++) {
+            for (char d = 'a'; d <= 'b'; d++) {
+                lets.append("let ").append(c).append(d).append("=").append(c - 'a').append(";");
+                sum.append("+").append(c).append(d);
+            }
+        }
+        Bench.result(lets.toString() + sum + ";", 25 * 26);
+        Bench.result("return 0" + Bench.times(740, "+1") + ";", 740);
+        Bench.result("a = [" + Bench.times(19, "\"abcdefghijklmnop\",") + "7]; return a[19];", 7);
+        Bench.error("return [" + Bench.times(740, "1,") + "1];", 4);
+        Bench.error("return f(" + Bench.times(740, "1,") + "1);", 6);
+        // So many VALUES wait nowhere else: 180 in each of 8 calls, and 735 before them.
+        Bench b = new Bench();
+        b.runs("fun f(n) { if (n == 7) { return 1; } h(" + Bench.times(180, "1,") + "f(n + 1)); }", 0);
+        b.runs("f(0);", 6);
+        b.runs("fun f(n) { if (n == 7) { abort; } h(" + Bench.times(180, "1,") + "f(n + 1)); }", 0);
+        b.runs("return ([" + Bench.times(735, "1,") + "f(0)]);", 10);
     }
 
     private static void printing() {
@@ -149,6 +201,7 @@ final class LanguageTest {
         b.prints("print nil; print {}; print []; print \"\"; print \"a b\"; print 10; print 100;",
                 "n\nr\nw\n\na b\n10\n100\n");
         b.prints("", "");
+        b.prints("print -1; print 9; print 1000000000; print 90;", "-1\n9\n1000000000\n90\n");
         b.runs("print 1; abort;", 10);
         Bench.due("out behind an ERROR", b.out(), "1\n");
         String line = "print \"abcdefghijklmn\";";
