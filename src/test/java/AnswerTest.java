@@ -79,8 +79,13 @@ final class AnswerTest {
         b.roots("a\0", Bench.NIL);
         b.roots("aa", Bench.NIL);
         b.roots("longnamee", Bench.NIL);
+        b.runs("aaaaaaaa = 3;", 0);
+        b.roots("aaaaaaaa", 3);
+        b.roots("aaaaaaaaa", Bench.NIL);
         b.roots("\341", Bench.NIL);
         b.roots("while", Bench.NIL);
+        b.runs("print 7;", 0);
+        b.roots("s", Bench.TEXT + 8 * 3);
         Bench.due("out stays", b.out(), "7\n");
         b.runs("a = nil;", 0);
         b.roots("a", Bench.NIL);

@@ -22,6 +22,7 @@ final class FaultTest {
         Bench.fault("a = \"abc", 4);
         Bench.fault("a = \"a\nb\";", 4);
         Bench.fault("a = \"a\177b\";", 4);
+        Bench.fault("a = \"a\037b\";", 4);
         Bench.error("a = \" ~!\";", 0);
         Bench.fault("a = 1 & 2;", 6);
         Bench.fault("a = 1 | 2;", 6);

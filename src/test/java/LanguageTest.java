@@ -24,6 +24,9 @@ final class LanguageTest {
         Bench.result("return (0 - 2147483647 - 1) % -1;", 0);
         Bench.result("return -7 / 2;", -3);
         Bench.result("return -7 % 3;", -1);
+        Bench.result("return 7 / -1 * 10 + 7 / 1;", -63);
+        Bench.result("return (0 - 2147483647 - 1) / -1;", -2147483648L);
+        Bench.result("return 7 % 1 + 7 % -1;", 0);
         Bench.result("return 7 % -3;", 1);
         Bench.result("return 65536 * 65536;", 0);
         Bench.result("return 2147483647 * 3;", 2147483645);
@@ -131,7 +134,8 @@ final class LanguageTest {
         b.gives("fun f(n) { let t = n; if (n) { f(n - 1); } return t; } return f(5);", 5);
         b.gives("fun f(n) { if (n) { let t = 1; } return t; } f(1); return f(0);", Bench.NIL);
         b.gives("{ let z = 3; } { return z; }", 3);
-        b.gives("let u = v; let v = u; return u == nil && v == nil;", 1);
+        b.gives("let v = v; let u = v; return u == nil && v == nil;", 1);
+        b.gives("fun l() { if (0) { let v = 1; } return v; } return l() == nil;", 1);
         // A name of a FUNCTION, or of a FIELD, is no variable.
         b.gives("fun a(x) { return x.a; } let a = 4; return a({a: a});", 4);
     }
