@@ -8,6 +8,7 @@ import java.util.TreeSet;
 /** The public face has the members that the document names, and no others. */
 final class FaceTest {
     public static void main(String[] args) {
+        Bench.says("The public face");
         TreeSet<String> found = new TreeSet<>();
         for (Method m : StowTongue.class.getDeclaredMethods()) {
             if (!Modifier.isPrivate(m.getModifiers()) && !m.isSynthetic()) {

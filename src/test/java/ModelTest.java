@@ -16,10 +16,14 @@ final class ModelTest {
             + " e = {p: 3, m: d}; s = \"abc\"; t = \"t\"; n = 5; m = 0; fun f(x) { return x + 1; }"
             + " fun g(x, y) { push(x, y); return size(x); } fun h(x) { x.q = x.p; x.p = nil; }";
 
+    /** More than this no program and the looks behind it take, but for its feeds. */
+    private static final int MOST_LOOKS = 130;
+
     private final Random dice;
     private final StringBuilder calls = new StringBuilder();
     private final StowTongue x = new StowTongue();
     private final Model model = new Model();
+    private int made;
     private int known;
 
     private ModelTest(long seed) {
@@ -27,12 +31,14 @@ final class ModelTest {
     }
 
     public static void main(String[] args) {
-        int runs = args.length > 0 ? Integer.parseInt(args[0]) : 1500;
+        int runs = args.length > 0 ? Integer.parseInt(args[0]) : 2500;
         int first = args.length > 1 ? Integer.parseInt(args[1]) : 0;
+        Bench.says("the document");
         int[] answers = new int[12];
         for (int seed = first; seed < first + runs; seed++) {
             new ModelTest(seed).play(answers);
         }
+        everyToken();
         // Else the programs would be of one sort only, and the test worth little.
         for (int code = 0; code <= 11; code++) {
             Bench.due("some runs answered " + code + " (11: a FAULT)", answers[code] > 0 ? 1 : 0, 1);
@@ -44,11 +50,30 @@ final class ModelTest {
     }
 
     private void due(String call, long got, long want) {
+        made++;
+        if (made > Bench.MOST_CALLS) {
+            throw new IllegalStateException("the test uses an object for more than 512 calls");
+        }
         calls.append(call).append('\n');
         if (got != want) {
             System.out.println(calls);
             Bench.due(call, got, want);
             Bench.finish();
+        }
+    }
+
+    /** Every token of SCRAPS behind every row of tokens with which a sound program begins. */
+    private static void everyToken() {
+        for (String program : GrammarTest.PROGRAMS) {
+            StringBuilder before = new StringBuilder();
+            for (String token : program.replace("# ", "").split(" ")) {
+                for (String scrap : SCRAPS) {
+                    ModelTest test = new ModelTest(0);
+                    test.type(before + scrap);
+                    test.due("run(50)", test.x.run(50), test.model.run(50));
+                }
+                before.append(token).append(' ');
+            }
         }
     }
 
@@ -60,7 +85,7 @@ final class ModelTest {
             if (dice.nextInt(8) == 0) {
                 text = spoilt(text);
             }
-            if (text.length() > 1500) {
+            if (text.length() > 1500 || made + text.length() / 20 + MOST_LOOKS > Bench.MOST_CALLS) {
                 continue;
             }
             type(text);
@@ -90,7 +115,7 @@ final class ModelTest {
             int t = all.getInt();
             due("feed", x.feed(p, q, r, s, t), model.feed(p, q, r, s, t));
         }
-        due("the text " + text, 0, 0);
+        calls.append("the text ").append(text).append('\n');
         due("end", x.end(text.length()), model.end(text.length()));
     }
 
@@ -103,16 +128,17 @@ final class ModelTest {
             due("value()", x.value(), model.value());
             lookAtOut();
         }
-        for (String name : NAMES) {
-            if (dice.nextInt(4) == 0) {
-                type(name);
-                due("root()", x.root(), model.root());
-            }
+        for (int i = dice.nextInt(4); i > 0; i--) {
+            type(pick(NAMES));
+            due("root()", x.root(), model.root());
         }
     }
 
     private void lookAtOut() {
-        for (int k = -2; k <= model.octet(-1); k++) {
+        int size = model.octet(-1);
+        due("octet(-1)", x.octet(-1), size);
+        for (int i = 0; i < Math.min(size, 12); i++) {
+            int k = size <= 12 ? i : i < 4 ? size - 2 + i : dice.nextInt(size);
             due("octet(" + k + ")", x.octet(k), model.octet(k));
         }
     }
